@@ -9,6 +9,7 @@ public final class CoinTest {
         twoPairs();
         lowered();
         coinOthers();
+        coinOfLast();
         projects();
         choices();
         ties();
@@ -113,6 +114,27 @@ public final class CoinTest {
         for (int what : others) {
             P.due("coin(" + what + ")", P.x.coin(what), 0);
         }
+    }
+
+    /** The last VILLAGE and the last CHILD have their own. */
+    private static void coinOfLast() {
+        P.fresh();
+        for (int v = 0; v < 6; v++) {
+            P.x.village(1, 0);
+        }
+        P.x.giver(0);
+        for (int c = 0; c < 16; c++) {
+            P.x.child(5, 0, 0, -1);
+        }
+        P.x.pair(0, 15);
+        P.x.gift(0, 10);
+        P.due("coin(15)", P.x.coin(15), 4);
+        P.due("coin(35)", P.x.coin(35), 5);
+        P.due("coin(55)", P.x.coin(55), 5);
+        P.due("coin(14)", P.x.coin(14), 0);
+        P.x.project(5, 4, 1);
+        P.due("choice(5)", P.x.choice(5), 1);
+        P.due("build(5)", P.x.build(5), 4);
     }
 
     private static void projects() {

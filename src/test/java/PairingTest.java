@@ -7,6 +7,7 @@ public final class PairingTest {
         mostTwos();
         ageAndVillage();
         tongues();
+        points();
         siblings();
         siblingsOfEnded();
         leastRow();
@@ -132,6 +133,49 @@ public final class PairingTest {
         P.x.pairing();
         duePair(4, 0, 0);
         duePair(5, 1, 1);
+    }
+
+    /** One GIVER (of TONGUE 0, with the CHILD 0) and two more CHILDREN: which of them it is, as the third PAIR. */
+    private static void dueOf(int wanted, int[] one, int[] other, int ages, int villages) {
+        P.fresh();
+        P.x.village(1, 0);
+        P.x.village(1, 0);
+        P.x.giver(0);
+        P.x.child(0, 5, 4, -1);
+        P.x.child(one[0], one[1], one[2], one[3]);
+        P.x.child(other[0], other[1], other[2], other[3]);
+        P.x.pair(0, 0);
+        P.x.wish(0, ages, villages);
+        P.due("pairing()", P.x.pairing(), 1);
+        duePair(1, 0, wanted);
+    }
+
+    /** A CHILD is a VILLAGE, a TONGUE, an AGE, a SIBLING; AGE 1 and VILLAGE 1 are wished. */
+    private static void points() {
+        int[] none = {0, 1, 0, -1};
+        int[] village = {1, 1, 0, -1};
+        int[] tongue = {0, 0, 0, -1};
+        int[] age = {0, 1, 1, -1};
+        int[] sibling = {0, 1, 0, 0};
+        int[] villageTongue = {1, 0, 0, -1};
+        int[] villageAge = {1, 1, 1, -1};
+        int[] tongueAge = {0, 0, 1, -1};
+        int[][] rising = {none, village, tongue, age, sibling, tongueAge};
+        for (int i = 0; i + 1 < rising.length; i++) {
+            dueOf(2, rising[i], rising[i + 1], 2, 2);
+            dueOf(1, rising[i + 1], rising[i], 2, 2);
+        }
+        // like ones: the first
+        dueOf(1, villageTongue, age, 2, 2);
+        dueOf(1, age, villageTongue, 2, 2);
+        dueOf(1, villageAge, sibling, 2, 2);
+        dueOf(1, sibling, villageAge, 2, 2);
+        dueOf(1, village, none, 2, 2);
+        dueOf(1, village, none, 2, 0);
+        dueOf(1, none, village, 2, 0);
+        dueOf(1, none, village, 2, 1 | 2);
+        dueOf(2, none, village, 2, 2);
+        dueOf(1, none, age, 2 | 1, 2);
     }
 
     private static void siblings() {

@@ -17,6 +17,7 @@ public final class PostTest {
         cuts();
         hands();
         handsArePersons();
+        handsOfAll();
         handsBorders();
         held();
         heldByRulesOfThen();
@@ -113,6 +114,8 @@ public final class PostTest {
         P.x.day();
         P.due("count(7)", P.x.count(7), 1);
         P.letter(0, 0, 1, "c");
+        P.due("about(2, 3)", P.x.about(2, 3), 1);
+        P.due("about(2, 4)", P.x.about(2, 4), 1);
         P.x.day();
         P.x.day();
         int[] sack = {0, 0, 1};
@@ -363,6 +366,43 @@ public final class PostTest {
         P.due("unlike(other)", P.x.unlike(other), 1);
         int giver = P.letter(2, 0, 0, "a");
         P.due("unlike(giver)", P.x.unlike(giver), 0);
+    }
+
+    /** Each of 16 GIVERS and 16 CHILDREN has a HAND of its own. */
+    private static void handsOfAll() {
+        P.fresh();
+        P.x.village(1, 0);
+        P.x.number(0, 1);
+        P.x.number(1, 127);
+        P.x.number(2, 20);
+        for (int i = 0; i < 16; i++) {
+            P.x.giver(0);
+            P.x.child(0, 0, 0, -1);
+            P.x.pair(i, i);
+        }
+        for (int p = 0; p < 16; p++) {
+            for (int i = 0; i < 3; i++) {
+                P.letter(p, 0, 2 * p, "a");
+                P.letter(p, 1, 99 - 2 * p, "a");
+            }
+        }
+        P.days(6);
+        P.due("count(25) and count(26)", P.x.count(25) + P.x.count(26), 96);
+        P.x.number(4, 0);
+        for (int l = 0; l < 96; l++) {
+            P.due("unlike(" + l + ")", P.x.unlike(l), 0);
+        }
+        P.x.number(4, 4);
+        for (int p = 0; p < 16; p++) {
+            int giver = P.letter(p, 0, 2 * p + 1, "a");
+            int child = P.letter(p, 1, 99 - 2 * p - 1, "a");
+            P.due("unlike(giver)", P.x.unlike(giver), 0);
+            P.due("unlike(child)", P.x.unlike(child), 0);
+        }
+        P.x.number(4, 3);
+        for (int l = 96; l < 128; l++) {
+            P.due("unlike(" + l + ")", P.x.unlike(l), 1);
+        }
     }
 
     private static void handsBorders() {

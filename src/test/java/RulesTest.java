@@ -7,6 +7,7 @@ public final class RulesTest {
         faults();
         faultsOfNumber();
         rulesStay();
+        manyRules();
         atoms();
         repeats();
         choices();
@@ -145,6 +146,29 @@ public final class RulesTest {
         P.due("found(0, 1) of no FINDS", P.x.found(0, 1), -1);
     }
 
+    /** One office reads RULES again and again, with a FAULT in an open group too. */
+    private static void manyRules() {
+        P.fresh();
+        P.rules("c:b");
+        for (int i = 0; i < 6; i++) {
+            P.due("rules with a fault in a group", P.rules("c:z;h:((a"), 1009);
+            P.due("count(10)", P.x.count(10), 1);
+            P.due("rules of all bytes", P.rules("c:" + "a".repeat(150) + "|" + "b".repeat(47)), 0);
+            P.due("rules with a fault", P.rules("q"), 1000);
+            P.due("count(10)", P.x.count(10), 1);
+        }
+        P.put("ab" + "b".repeat(47));
+        P.due("look(49)", P.x.look(49), 1);
+        P.due("found(0, 1)", P.x.found(0, 1), 1);
+        P.due("found(0, 2)", P.x.found(0, 2), 47);
+        P.x.rules(0);
+        P.rules("c:" + "a".repeat(150) + "|" + "b".repeat(47));
+        P.put("b" + "a".repeat(151));
+        P.due("look(152)", P.x.look(152), 1);
+        P.due("found(0, 1)", P.x.found(0, 1), 1);
+        P.due("found(0, 2)", P.x.found(0, 2), 150);
+    }
+
     private static void find(String rules, String text, String want) {
         P.dueText(rules + " in " + text, P.finds(rules, text), want);
     }
@@ -250,6 +274,9 @@ public final class RulesTest {
             P.put("a" + other);
             P.due("look(2) with another sign", P.x.look(2), -1);
             P.due("look(1)", P.x.look(1), 0);
+            P.fresh();
+            P.put(other + "a");
+            P.due("look(2) with another sign first", P.x.look(2), -1);
         }
         P.fresh();
         P.put("az09 \n");

@@ -58,6 +58,10 @@ public final class TrialTest {
         // a new one starts anew
         P.due("trial(5, 4)", P.x.trial(5, 4), true);
         dueDoubt(1, 1, 0);
+        P.x.outcome(2, 4);
+        dueDoubt(1, 1, 0);
+        P.x.outcome(0, 4);
+        dueDoubt(2, 2, 0);
     }
 
     private static void outcomes() {
