@@ -641,14 +641,9 @@ public final class ChildLetters {
         private int[] reach = new int[Rules.MOST_STATES];
         private int[] reachBehind = new int[Rules.MOST_STATES];
 
-        void search(Rules rules, char[] text, int n) {
-            int ends = Math.min(n, Math.min(text.length, MOST_TEXT));
-            reachAll(rules, text, ends);
-            gather(text, ends);
-        }
-
-        /** Places from the last to the first: what a state reaches hangs on what those behind it reach. */
-        private void reachAll(Rules rules, char[] text, int n) {
+        /** Places from the last to the first: how far a state gets hangs on those behind its place. */
+        void search(Rules rules, char[] text, int most) {
+            int n = Math.min(most, Math.min(text.length, MOST_TEXT));
             for (int at = n; at >= 0; at--) {
                 int[] old = reachBehind;
                 reachBehind = reach;
@@ -659,6 +654,7 @@ public final class ChildLetters {
                     noteFirstRule(rules, at);
                 }
             }
+            gather(text, n);
         }
 
         /** How far each state gets from a place by taking the sign there (NONE: to no goal). */
@@ -1293,11 +1289,9 @@ public final class ChildLetters {
             allot.clear(queued);
             for (int t = 0; t < size; t++) {
                 boolean works = (off[t] >> today % WEEK_DAYS & 1) == 0;
-                allot.room[t] = works ? perDay[t] : 0;
-                for (int i = 0; i < queued; i++) {
-                    if ((knows[t] >> folk.tonguesBit(queue[i]) & 1) != 0) {
-                        allot.allow(i, t, queue[i].pair.translator == t ? 1 : 0);
-                    }
+                if (works) {
+                    allot.room[t] = perDay[t];
+                    allowKnown(t, queued, folk);
                 }
             }
             allot.solve();
@@ -1306,6 +1300,14 @@ public final class ChildLetters {
                     queue[i].translator = allot.best[i];
                     queue[i].pair.translator = allot.best[i];
                     queue[i].move(ON_WAY, today);
+                }
+            }
+        }
+
+        private void allowKnown(int t, int queued, Folk folk) {
+            for (int i = 0; i < queued; i++) {
+                if ((knows[t] >> folk.tonguesBit(queue[i]) & 1) != 0) {
+                    allot.allow(i, t, queue[i].pair.translator == t ? 1 : 0);
                 }
             }
         }

@@ -13,6 +13,7 @@ public final class CoinTest {
         projects();
         choices();
         ties();
+        twelve();
         builds();
         P.close("CoinTest");
     }
@@ -217,6 +218,20 @@ public final class CoinTest {
         P.x.project(0, 60, 4);
         P.x.project(0, 40, 4);
         P.due("like WORTH and COST, least bits", P.x.choice(0), 1);
+    }
+
+    private static void twelve() {
+        pools();
+        for (int i = 0; i < 12; i++) {
+            P.x.project(0, 10, 1);
+        }
+        P.due("choice(0)", P.x.choice(0), 1023);
+        P.due("build(0)", P.x.build(0), 100);
+        P.x.gift(0, 20);
+        P.due("choice(0)", P.x.choice(0), 3072);
+        P.due("build(0)", P.x.build(0), 20);
+        P.due("choice(0)", P.x.choice(0), 0);
+        P.due("count(13)", P.x.count(13), 12);
     }
 
     private static void builds() {

@@ -14,6 +14,7 @@ public final class PairingTest {
         firstSix();
         whoCanNot();
         fewerOfOne();
+        lastOnes();
         fortyPairs();
         P.close("PairingTest");
     }
@@ -323,6 +324,23 @@ public final class PairingTest {
         duePair(0, 0, 0);
         duePair(1, 1, 1);
         duePair(2, 4, 2);
+    }
+
+    /** The last of 16 GIVERS and of 16 CHILDREN. */
+    private static void lastOnes() {
+        some(16, 14);
+        P.x.child(1, 5, 4, -1);
+        P.x.child(1, 5, 4, 14);
+        for (int c = 0; c < 14; c++) {
+            P.x.leaves(c, 0);
+        }
+        P.x.pair(15, 14);
+        P.x.wish(14, 0, 0);
+        P.x.wish(15, 0, 0);
+        P.due("pairing()", P.x.pairing(), 1);
+        duePair(1, 15, 15);
+        P.due("count(14)", P.x.count(14), 1);
+        P.due("pairing()", P.x.pairing(), 0);
     }
 
     private static void fortyPairs() {
